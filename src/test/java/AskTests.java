@@ -10,6 +10,7 @@ public final class AskTests {
     as();
     back();
     whyByGliderSeatsWeight();
+    whyAtTheEdges();
     whyInOrder();
     whyTeacher();
     whyRecent();
@@ -155,6 +156,34 @@ public final class AskTests {
     due.is("p23 doesn't wait", x.why(0), STATE);
     x.back(4);
     due.is("p23 gone", x.why(4), STATE);
+  }
+
+  /** Weights that are just MOST, and person 0 along. */
+  private static void whyAtTheEdges() {
+    TowField x = new TowField();
+    x.person(61, 16);
+    x.person(60, 16);
+    x.glider(1, 60, 0, 0);
+    x.glider(2, 121, 0, 0);
+    x.glider(2, 120, 0, 0);
+    x.ask(1, -1, 0, 14, 1);
+    x.ask(0, -1, 0, 14, 1);
+    x.ask(1, 0, 0, 14, 1);
+    x.ask(1, 0, 1, 14, 1);
+    x.ask(1, 0, 2, 14, 1);
+    expectWhy(x, "p23 edges", 0, 3, 2, 0, 3);
+    x.back(0);
+    x.back(1);
+    x.back(2);
+    x.run(1);
+    due.is("p23 person 0 is along", x.personIs(0, 4), 1);
+    x.ask(0, -1, 0, 14, 1);
+    due.is("p23 who flies is along elsewhere, and too heavy", x.why(5), 3);
+    x.ask(0, -1, 2, 14, 1);
+    due.is("p23 who flies is along elsewhere", x.why(6), 8);
+    x.back(6);
+    x.run(9);
+    due.is("p23 person 0 came down", x.personIs(0, 2), 3);
   }
 
   /** One ask that all of 4 to 11 keep from going; they are taken away one by one. */

@@ -6,6 +6,7 @@ public final class MinuteTests {
   public static void main(String[] args) {
     run();
     landingsInOrder();
+    landingsByTheMinuteDue();
     landingWaitsForItsLane();
     shortIsTheLeast();
     oneLaunchAMinute();
@@ -15,6 +16,7 @@ public final class MinuteTests {
     planesInOrder();
     landingFreesForTheSameMinute();
     ahead();
+    aheadAsWhy();
     aheadBeyondTheLastMinute();
     late();
     check();
@@ -70,17 +72,35 @@ public final class MinuteTests {
     due.is("2 came down", x.askIs(2, 8), 14);
     due.is("3 came down", x.askIs(3, 8), 16);
     due.is("0 came down", x.askIs(0, 8), 21);
+  }
+
+  /** Three that are due while the lane is not clear: they go by when they were due, not by numbers. */
+  private static void landingsByTheMinuteDue() {
+    TowField x = field(4);
+    x.winch();
+    x.cross(2, 3, true);
+    x.rule(0, 20);
+    x.ask(0, -1, 0, 14, 12);
+    x.ask(1, -1, 1, 14, 9);
+    x.ask(2, -1, 2, 14, 7);
+    x.ask(3, -1, 3, 14, 7);
+    // Due in 13, 11, 10, 11; fetching has the lane till 20.
+    x.run(20);
+    due.is("due first", x.next(), 1002);
+    x.run(2);
+    due.is("then the least of those due in 11", x.next(), 1001);
+    x.run(2);
+    due.is("then the other one", x.next(), 1003);
+    x.run(2);
+    due.is("then the last", x.next(), 1000);
     TowField y = field(2);
-    y.ask(0, -1, 0, 14, 20);
-    y.ask(1, -1, 1, 14, 5);
-    y.run(2);
-    y.cross(2, 4, true);
-    y.lane(3, 4);
-    y.rule(0, 20);
-    y.run(5);
     y.winch();
-    y.run(1);
-    due.is("earlier dues go first", y.askIs(1, 8), 7);
+    y.cross(2, 3, true);
+    y.rule(0, 20);
+    y.ask(0, -1, 0, 14, 7);
+    y.ask(1, -1, 1, 14, 7);
+    y.run(20);
+    due.is("the first number, if it was due first", y.next(), 1000);
   }
 
   private static void landingWaitsForItsLane() {
@@ -190,6 +210,16 @@ public final class MinuteTests {
     x.run(1);
     due.is("then the other one", x.askIs(1, 7), 16);
     due.is("of winch 0", x.rope(0, 0, 0), 0);
+    due.is("at the drum: till none", x.rope(0, 0, 1), -1);
+    due.is("at the drum after a double: till none", x.rope(1, 0, 1) + x.rope(1, 1, 1), -2);
+    TowField y = field(1);
+    y.winch();
+    y.run(4);
+    y.lane(3, 0);
+    y.ask(0, -1, 0, 13, 60);
+    y.run(1);
+    due.is("both of winch 0", y.rope(0, 0, 0) + y.rope(0, 1, 0), 0);
+    due.is("till none", y.rope(0, 0, 1) + y.rope(0, 1, 1), -2);
   }
 
   private static void fetchingInOrder() {
@@ -279,6 +309,41 @@ public final class MinuteTests {
     due.is("p32 twenty wait", y.ahead(0, 3), (1 << 20) - 1);
     due.is("p32 twenty went", y.ahead(200, 0), 20);
     due.is("p32 twenty came down", y.ahead(200, 1), 20);
+  }
+
+  /** What is ahead asks WHY as now: seats, weights, links, the bar, the lane of the kind. */
+  private static void aheadAsWhy() {
+    TowField x = new TowField();
+    x.person(80, 126);
+    x.person(80, 126);
+    x.glider(1, 200, 1, 0);
+    x.glider(2, 150, 1, 0);
+    x.glider(2, 200, 2, 0);
+    x.glider(2, 200, 0, 0);
+    x.ask(0, 1, 0, 14, 1);
+    x.ask(0, 1, 1, 14, 1);
+    x.ask(0, 1, 2, 14, 1);
+    x.ask(0, 1, 3, 294, 1);
+    x.ask(0, 1, 3, 14, 9);
+    x.ask(0, 1, 3, 14, 1);
+    x.link(2, false);
+    Due.text(x, 0, "height > 28 | minutes > 8 | wind > 5");
+    due.is("all but the last wait", x.ahead(200, 3), 31);
+    due.is("late are those too", x.late(20), 31);
+    x.wind(6);
+    due.is("all are barred", x.ahead(200, 3), 63);
+    x.wind(0);
+    x.winch();
+    x.lane(3, 1);
+    x.rule(0, 20);
+    x.run(1);
+    due.is("the lane of tows is not that of winches", x.ahead(19, 0), 0);
+    TowField y = field(2);
+    y.ask(0, -1, 0, 304, 1);
+    y.ask(1, -1, 1, 14, 1);
+    y.run(1);
+    due.is("six minutes on the lane of tows", y.ahead(5, 0), 0);
+    due.is("then it is clear", y.ahead(6, 0), 1);
   }
 
   private static void aheadBeyondTheLastMinute() {

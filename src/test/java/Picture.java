@@ -2,7 +2,7 @@
 final class Picture {
   private Picture() {}
 
-  static String of(TowField x, int tapeShown) {
+  static String of(TowField x) {
     StringBuilder out = new StringBuilder();
     for (int what = 0; what <= 13; what++) {
       add(out, "count", x.count(what));
@@ -19,7 +19,6 @@ final class Picture {
       add(out, "ahead", x.ahead(60, what));
     }
     add(out, "next", x.next());
-    add(out, "tape", tapeShown);
     return out.toString();
   }
 

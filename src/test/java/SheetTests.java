@@ -11,6 +11,7 @@ public final class SheetTests {
     image();
     imageOfAll();
     imageOfTexts();
+    newOnesBehindAnUndo();
     count();
     status();
     due.end();
@@ -40,7 +41,9 @@ public final class SheetTests {
     due.is("p37 missing", x.sheet(0, 0, 24), 0);
     due.is("p37 is missing", x.check(0), Due.MISSING);
     x.sheet(2, 16, 3);
-    x.write(2, 1, 5);
+    for (int i = 0; i < 3; i++) {
+      x.write(2, i, 5);
+    }
     due.is("p37 anew", x.sheet(2, 16, 3), 3);
     due.is("p37 all 0 again", x.check(2), 3);
   }
@@ -169,7 +172,7 @@ public final class SheetTests {
     TowField x = busy();
     x.feed(1, 2);
     x.sheet(1, 8, 2);
-    String before = Picture.of(x, 0);
+    String before = Picture.of(x);
     x.image();
     x.person(100, 2);
     x.glider(1, 100, 3, 3);
@@ -203,10 +206,10 @@ public final class SheetTests {
     due.is("p41 nor status", x.status(-1), findings + 2);
     x.wipe();
     x.feed(1, 2);
-    due.holds("p41 all is as it was", Picture.of(x, 0).equals(before));
+    due.holds("p41 all is as it was", Picture.of(x).equals(before));
     x.run(20);
     x.undo();
-    due.holds("p41 again", Picture.of(x, 0).equals(before));
+    due.holds("p41 again", Picture.of(x).equals(before));
   }
 
   private static void imageOfTexts() {
@@ -227,6 +230,42 @@ public final class SheetTests {
     due.is("p41 2 says", x.says(2, 0, 0, 0), 5);
     x.tear();
     due.is("p42 stays", x.says(2, 0, 0, 0), 5);
+  }
+
+  /** What comes anew behind an undo has nothing of what had its number before. */
+  private static void newOnesBehindAnUndo() {
+    TowField x = new TowField();
+    x.person(60, 16);
+    x.image();
+    x.person(70, 16);
+    x.glider(1, 100, 1, 2);
+    x.winch();
+    x.plane();
+    x.share(0, 99);
+    x.ask(1, -1, 0, 14, 2);
+    x.ask(1, -1, 0, 12, 2);
+    x.run(7);
+    due.is("p41 it has flown", x.personIs(1, 2), 3);
+    x.undo();
+    x.person(50, 8);
+    x.glider(2, 110, 3, 1);
+    x.winch();
+    x.plane();
+    x.ask(1, -1, 0, 25, 7);
+    int[] person = {50, 8, -1, 0, 0};
+    int[] glider = {2, 110, 3, 1, 1};
+    for (int what = 0; what < 5; what++) {
+      due.is("p41 a new person " + what, x.personIs(1, what), person[what]);
+      due.is("p41 a new glider " + what, x.gliderIs(0, what), glider[what]);
+    }
+    int[] ask = {1, -1, 0, 5, 2, 7, 0, -1, -1, -1};
+    for (int what = 0; what < ask.length; what++) {
+      due.is("p41 a new ask " + what, x.askIs(0, what), ask[what]);
+    }
+    due.is("p41 a new rope", x.rope(0, 0, 0), 0);
+    due.is("p41 its till", x.rope(0, 0, 1), -1);
+    due.is("p41 a new plane", x.tow(0), -1);
+    due.is("p41 no movements", x.count(13), 0);
   }
 
   private static void count() {
