@@ -38,7 +38,7 @@ final class Due {
     }
   }
 
-  /** Puts a text on the tape, byte by byte groups of four as the last ones allow. */
+  /** Puts a text on the tape, byte by byte. */
   static void feed(TowField x, String text) {
     for (int i = 0; i < text.length(); i++) {
       x.feed(text.charAt(i), 1);
