@@ -12,13 +12,19 @@ final class Due {
 
   private int asked = 0;
   private int wrong = 0;
+  private String about = "";
+
+  /** What the answers from here on are about: it is printed ahead of each that differs. */
+  void about(String what) {
+    about = what;
+  }
 
   void is(String what, long got, long due) {
     asked++;
     if (got != due) {
       wrong++;
       if (wrong <= PRINTED) {
-        System.out.println(what + " answered " + got + ", due is " + due);
+        System.out.println(about + what + " answered " + got + ", due is " + due);
       }
     }
   }
@@ -29,6 +35,14 @@ final class Due {
 
   boolean isWrong() {
     return wrong > 0;
+  }
+
+  int asked() {
+    return asked;
+  }
+
+  static boolean isFinding(int answer) {
+    return answer <= BEYOND && answer >= SIZE;
   }
 
   void end() {

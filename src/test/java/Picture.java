@@ -1,28 +1,43 @@
-/** All that can be read of an object by calls that answer no finding, as one text. */
+/**
+ * All that can be read of an object by calls, as texts: those that change an object come last in their part, so that each part
+ * wants an object of its own with the same calls behind it.
+ */
 final class Picture {
+  static final int PARTS = 5;
+
   private Picture() {}
 
-  static String of(TowField x) {
+  static String part(TowField x, int part) {
     StringBuilder out = new StringBuilder();
-    for (int what = 0; what <= 13; what++) {
-      add(out, "count", x.count(what));
+    switch (part) {
+      case 0:
+        gear(x, out);
+        break;
+      case 1:
+        asks(x, out);
+        break;
+      case 2:
+        settings(x, out);
+        break;
+      case 3:
+        sheets(x, out);
+        break;
+      default:
+        tapeAndImage(x, out);
+        break;
     }
-    gear(x, out);
-    asks(x, out);
-    settings(x, out);
-    for (int use = 0; use < 2 && x.count(9) > 0; use++) {
-      for (int text = 0; text < x.count(9); text++) {
-        add(out, "says", x.says(text, 7 + use, 11, 3));
-      }
-    }
-    for (int what = 0; what < 4; what++) {
-      add(out, "ahead", x.ahead(60, what));
-    }
-    add(out, "next", x.next());
     return out.toString();
   }
 
+  /** The parts that change nothing: sections 1 to 6 of the terms, and how many bytes the tape has. */
+  static String of(TowField x) {
+    return part(x, 0) + part(x, 1) + part(x, 2);
+  }
+
   private static void gear(TowField x, StringBuilder out) {
+    for (int what = 0; what <= 13; what++) {
+      add(out, "count", x.count(what));
+    }
     for (int g = 0; g < x.count(0); g++) {
       for (int what = 0; what < 5; what++) {
         add(out, "glider", x.gliderIs(g, what));
@@ -43,7 +58,8 @@ final class Picture {
   }
 
   private static void asks(TowField x, StringBuilder out) {
-    for (int a = 0; a < x.count(4); a++) {
+    int many = x.count(4);
+    for (int a = 0; a < many; a++) {
       for (int what = 0; what < 10; what++) {
         add(out, "ask", x.askIs(a, what));
       }
@@ -51,6 +67,11 @@ final class Picture {
         add(out, "why", x.why(a));
       }
     }
+    add(out, "next", x.next());
+    for (int what = 0; what < 4; what++) {
+      add(out, "ahead", x.ahead(60, what));
+    }
+    add(out, "late", x.late(x.count(10) + 5));
   }
 
   /** Settings that only a change tells: each is changed and put back. */
@@ -79,6 +100,41 @@ final class Picture {
     for (int lane = 0; lane < 6; lane++) {
       add(out, "clear", x.clear(lane, 1));
     }
+    int texts = x.count(9);
+    for (int text = 0; text < texts; text++) {
+      add(out, "says", x.says(text, 7, 11, 3));
+    }
+    for (int use = 0; use < 2 && texts > 0; use++) {
+      add(out, "force", x.force(use));
+    }
+  }
+
+  /** A sheet can't be read but by check: its numbers are made what they should be, place by place. */
+  private static void sheets(TowField x, StringBuilder out) {
+    int[] tries = {0, 1, 10, 11};
+    for (int s = 0; s < 4; s++) {
+      int at = x.check(s);
+      add(out, "check", at);
+      for (int i = 0; i < 4 * 24 && x.write(s, at, tries[i % 4]) == 1; i++) {
+        at = x.check(s);
+        add(out, "check", at);
+      }
+      for (int t = 0; t < 4; t++) {
+        add(out, "copy", x.copy(s, 0, t, 0, 0));
+      }
+    }
+  }
+
+  private static void tapeAndImage(TowField x, StringBuilder out) {
+    add(out, "undo", x.undo());
+    add(out, "minute", x.count(10));
+    add(out, "asks", x.count(4));
+    // A text of what is left on the tape, where there is room for one.
+    int text = x.text(0);
+    add(out, "text", text);
+    add(out, "says", x.says(text, 7, 11, 3));
+    add(out, "wipe", x.wipe());
+    add(out, "tear", x.tear());
   }
 
   private static void add(StringBuilder out, String name, int value) {
