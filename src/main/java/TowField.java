@@ -907,9 +907,8 @@ public final class TowField {
     static final int FOR_LANDING = 2;
     static final int FOR_FETCHING = 3;
 
-    // A minute begins one launch (11 minutes at most), one landing (2) and one fetching (20) at most,
-    // as each keeps its own lane: no more than 33 movements go on at once.
-    private static final int MOST_MOVEMENTS = 64;
+    // A movement begins only where its lane is clear, and each lane crosses itself.
+    private static final int MOST_MOVEMENTS = MOST;
 
     final int[] crosses = new int[MOST];
     final int[] laneFor = new int[USES];

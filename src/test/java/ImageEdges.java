@@ -162,6 +162,10 @@ final class ImageEdges {
     due.is("its till", x.rope(0, 1, 1), -1);
     due.is("a new plane", x.tow(0), -1);
     due.is("no movement", x.count(13), 0);
+    Due.text(x, 0, "!!(height<3)+0");
+    x.undo();
+    Due.text(x, 0, "height");
+    due.is("a shorter text", x.says(0, 7, 0, 0), 7);
   }
 
   private static void undoOfNothing(Due due) {
@@ -279,17 +283,39 @@ final class ImageEdges {
     due.is("none", x.count(13), 0);
     x.run(1);
     due.is("one of a single MINUTE is over", x.count(13), 0);
-    // As many as there can be: each MINUTE a tow on a LANE of its own.
-    TowField y = Edges.pairs(6);
+    asManyAsCanBe(due);
+  }
+
+  /** One on each LANE: in each of three MINUTES a tow and a winch that is fetched, each on a LANE of its own. */
+  private static void asManyAsCanBe(Due due) {
+    TowField x = Edges.pairs(4);
+    x.rule(0, 20);
     for (int i = 0; i < 3; i++) {
-      y.plane();
+      x.plane();
+      x.winch();
+      x.lane(1, i);
+      x.lane(3, 3 + i);
+      x.ask(i, -1, i, 305, 60);
+      x.run(1);
+      due.is("two more", x.count(13), 2 * (i + 1));
     }
-    for (int i = 0; i < 3; i++) {
-      y.lane(1, i);
-      y.ask(i, -1, i, 305, 60);
-      y.run(1);
-      due.is("on a LANE of its own", y.count(13), i + 1);
+    x.ask(3, -1, 3, 14, 60);
+    x.image();
+    for (int lane = 0; lane < 6; lane++) {
+      due.is("no LANE is clear, " + lane, x.clear(lane, 1), 0);
+      x.lane(1, lane);
+      due.is("nothing can start", x.why(3), 11);
     }
+    x.undo();
+    due.is("six are kept", x.count(13), 6);
+    x.run(7);
+    due.is("in 10", x.count(13), 6);
+    x.run(3);
+    due.is("in 13: the tows have ended", x.count(13), 3);
+    x.run(6);
+    due.is("in 19", x.count(13), 3);
+    x.run(3);
+    due.is("in 22: all have ended", x.count(13), 0);
   }
 
   private static void countBeyond(Due due) {
