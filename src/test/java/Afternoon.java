@@ -65,4 +65,46 @@ final class Afternoon {
     x.feed('9', 1);
     return x;
   }
+
+  /**
+   * As much of everything as there can be, with the last of each unlike the others: of the ropes only rope 1 of winch 2 is OUT,
+   * all planes are AWAY, and asks 18 and 19 are the only ones that can go.
+   */
+  static TowField packed() {
+    TowField x = new TowField();
+    for (int i = 0; i < 14; i++) {
+      x.person(60 + i, i == 3 ? 0 : 126);
+    }
+    for (int i = 0; i < 10; i++) {
+      x.glider(2, 150 + 10 * i, i % 4, i == 9 ? 16383 : 3 << i);
+    }
+    for (int i = 0; i < 3; i++) {
+      x.winch();
+      x.plane();
+    }
+    x.run(12);
+    x.rule(2, 60);
+    for (int place = 0; place < 5; place++) {
+      x.broken(place / 2, place % 2);
+    }
+    int[] lanes = {0, 4, 5};
+    for (int i = 0; i < 3; i++) {
+      x.lane(1, lanes[i]);
+      x.ask(i, 4 + i, i, 305, 50 + i);
+      x.run(1);
+    }
+    x.lane(1, 1);
+    x.lane(0, 3);
+    for (int i = 3; i < 18; i++) {
+      // Person 3 has no papers: these wait.
+      x.ask(3, -1, 3 + i % 5, 11 + 10 * i, i);
+    }
+    x.ask(12, -1, 8, 11, 9);
+    x.ask(13, 11, 9, 54, 8);
+    for (int i = 0; i < 6; i++) {
+      Due.text(x, i % 2, i == 4 ? "0" : i == 5 ? "height+700" : "kind*9+" + i);
+    }
+    x.share(9, 9999);
+    return x;
+  }
 }

@@ -96,7 +96,74 @@ final class ImageEdges {
     due.is("900", z.undo(), 900);
     due.is("it stays full", z.run(1), Due.FULL);
     undoOfMovements(due);
+    undoOfAll(due);
     undoAndAnew(due);
+  }
+
+  /** With as much of everything as there can be, the last of each comes back, too. */
+  private static void undoOfAll(Due due) {
+    for (int round = 0; round < 2; round++) {
+      for (int part = 0; part < 3; part++) {
+        String was = Picture.part(packed(round), part);
+        TowField x = packed(round);
+        x.image();
+        changeAll(x);
+        x.undo();
+        due.holds("round " + round + ", part " + part, Picture.part(x, part).equals(was));
+        TowField y = packed(round);
+        changeAll(y);
+        due.holds("the change can be seen, part " + part, !Picture.part(y, part).equals(was));
+      }
+    }
+    due.is("one rope is OUT", packed(0).rope(2, 1, 0), 2);
+    due.is("or BROKEN", packed(1).rope(2, 1, 1), 75);
+    due.is("all planes are AWAY", packed(0).tow(2), 36);
+    due.is("asks 0, 1, 2 are in the air", packed(0).ahead(0, 2), 7);
+    due.is("18 can go", packed(0).next(), 2018);
+    due.is("or else 19", packed(1).next(), 2019);
+    undoOfCrossing(due);
+  }
+
+  /** Both ways: asked from either LANE, as one way put back would hide the other. */
+  private static void undoOfCrossing(Due due) {
+    for (int lane = 0; lane < 6; lane++) {
+      for (int other = 0; other < 6; other++) {
+        if (lane != other) {
+          TowField x = new TowField();
+          x.image();
+          x.cross(lane, other, true);
+          x.undo();
+          due.is(lane + " and " + other + " don't CROSS again", x.cross(other, lane, false), 0);
+        }
+      }
+    }
+  }
+
+  private static TowField packed(int round) {
+    TowField x = Afternoon.packed();
+    if (round > 0) {
+      x.broken(2, 1);
+    }
+    return x;
+  }
+
+  private static void changeAll(TowField x) {
+    for (int person = 0; person < 14; person++) {
+      x.pay(person, 7);
+      x.paper(person, 2, false);
+    }
+    for (int lane = 0; lane < 5; lane++) {
+      x.cross(lane, lane + 1, true);
+    }
+    for (int i = 0; i < 4; i++) {
+      x.lane(i, i + 2);
+      x.rule(i, 3);
+      x.link(i, false);
+      x.link(i, i < 3);
+    }
+    x.back(17);
+    x.run(100);
+    x.wind(11);
   }
 
   /** Movements on three lanes, with ends of their own, come back as they were. */
@@ -162,7 +229,7 @@ final class ImageEdges {
     due.is("its till", x.rope(0, 1, 1), -1);
     due.is("a new plane", x.tow(0), -1);
     due.is("no movement", x.count(13), 0);
-    Due.text(x, 0, "!!(height<3)+0");
+    Due.text(x, 0, "!height");
     x.undo();
     Due.text(x, 0, "height");
     due.is("a shorter text", x.says(0, 7, 0, 0), 7);

@@ -484,6 +484,74 @@ final class MinuteEdges {
     due.is("beyond 900: down in 966", last.ahead(67, 1), 1);
     due.is("beyond 900: 200", last.ahead(200, 0), 1);
     due.is("900 is open yet", last.count(10), 900);
+    aheadOfAll(due);
+  }
+
+  /** With as much of everything as there can be: rope 1 of winch 2, glider 9, person 13, ask 19 are looked at, too. */
+  private static void aheadOfAll(Due due) {
+    TowField x = Afternoon.packed();
+    due.is("by the last rope", x.ahead(1, 2), 7 + (1 << 18));
+    due.is("and the last ask", x.ahead(2, 2), 7 + (3 << 18));
+    due.is("late by 15", x.late(15), (1 << 20) - 1 - 7 - (1 << 18));
+    due.is("late by 16", x.late(16), (1 << 18) - 1 - 7);
+    x.sheet(0, 8, 3);
+    x.write(0, 0, 1);
+    x.write(0, 1, 1);
+    due.is("check", x.check(0), 3);
+    x.rule(2, 1);
+    x.broken(2, 1);
+    due.is("19 goes ahead of 18: the last rope is BROKEN", x.ahead(1, 2), 7 + (1 << 19));
+    due.is("no rope is OUT by 16", x.late(16), (1 << 19) - 1 - 7);
+    for (int n = 1; n <= 100; n++) {
+      TowField y = Afternoon.packed();
+      y.rule(2, 1);
+      y.broken(2, 1);
+      y.run(n);
+      due.is("in the air after " + n, x.ahead(n, 2), asksThatAre(y, 1));
+      due.is("late by " + (14 + n), x.late(14 + n), asksThatAre(y, 0));
+    }
+    for (int many = 1; many <= 10; many++) {
+      aheadOfLastGlider(due, many);
+    }
+    for (int lane = 0; lane < 6; lane++) {
+      aheadOnLane(due, lane);
+    }
+  }
+
+  /** What keeps the last glider in the row now does so ahead, too. */
+  private static void aheadOfLastGlider(Due due, int many) {
+    for (int why = 1; why <= 3; why++) {
+      TowField y = new TowField();
+      y.person(60, 126);
+      y.person(60, 126);
+      for (int i = 1; i < many; i++) {
+        y.glider(2, 250, 0, 0);
+      }
+      int last = y.glider(why == 1 ? 1 : 2, why == 2 ? 119 : 120, why == 3 ? 3 : 0, 0);
+      y.link(3, false);
+      y.ask(0, 1, last, 14, 9);
+      due.is("WHY of glider " + last, y.why(0), new int[] {0, 2, 3, 7}[why]);
+      due.is("ahead of glider " + last + ", " + why, y.ahead(5, 0), 0);
+      due.is("late with glider " + last + ", " + why, y.late(5), 1);
+    }
+  }
+
+  /** A LANE that CROSSES one with a MOVEMENT isn't CLEAR ahead, either. */
+  private static void aheadOnLane(Due due, int lane) {
+    for (int other = 0; other < 6; other++) {
+      TowField x = Edges.pairs(1);
+      x.winch();
+      x.rule(0, 20);
+      x.lane(3, other);
+      x.run(1);
+      x.lane(1, lane);
+      if (lane != other) {
+        x.cross(lane, other, true);
+      }
+      x.ask(0, -1, 0, 14, 60);
+      due.is("on " + lane + " beside " + other, x.ahead(19, 2), 0);
+      due.is("on " + lane + " behind " + other, x.ahead(20, 2), 1);
+    }
   }
 
   private static int asksThatAre(TowField x, int state) {

@@ -394,6 +394,9 @@ final class TextEdges {
     due.is("it has room again", x.feed(' ', 4), 4);
     value(due, "1" + "+1".repeat(49) + " ", 50);
     value(due, " 9" + "-9".repeat(49), -48 * 9);
+    value(due, "!1" + "+1".repeat(49), 0);
+    value(due, "!0" + "+0".repeat(49), 1);
+    value(due, "!!!!!1" + "+1".repeat(46) + "*1", 0);
   }
 
   private static int costOf(int kind, int height, int minutes, String text) {
