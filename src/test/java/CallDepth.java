@@ -1,68 +1,81 @@
+import com.sun.source.tree.MethodInvocationTree;
+import com.sun.source.tree.MethodTree;
+import com.sun.source.tree.NewClassTree;
+import com.sun.source.tree.Tree;
+import com.sun.source.util.JavacTask;
+import com.sun.source.util.TreePathScanner;
+import com.sun.source.util.Trees;
 import java.io.IOException;
-import java.io.PrintWriter;
-import java.io.StringWriter;
-import java.nio.file.Files;
 import java.nio.file.Path;
+import java.util.ArrayList;
 import java.util.HashMap;
 import java.util.HashSet;
 import java.util.List;
 import java.util.Map;
 import java.util.Set;
 import java.util.TreeSet;
-import java.util.regex.Matcher;
-import java.util.regex.Pattern;
-import java.util.spi.ToolProvider;
-import java.util.stream.Collectors;
-import java.util.stream.Stream;
+import javax.lang.model.element.Element;
+import javax.tools.JavaCompiler;
+import javax.tools.StandardJavaFileManager;
+import javax.tools.ToolProvider;
 
-/** Which methods of the program call which, as its class files show it. */
+/** Which methods and constructors of a source call which, as javac understands it. */
 final class CallDepth {
-  private static final Pattern CLASS = Pattern.compile("(?:[\\w ]* )?class (TowField[\\w$]*) .*\\{");
-  private static final Pattern METHOD = Pattern.compile("  (?:[\\w\\[\\]$.]+ )*?([\\w$.]+)\\(([^)]*)\\);");
-  private static final Pattern CALL = Pattern.compile(".*invoke\\w+ .*// Method (?:(TowField[\\w$]*)\\.)?(?:\"<init>\"|(\\w+)):.*");
-
   private final Map<String, Set<String>> calls = new HashMap<>();
   private final Map<String, Set<String>> reached = new HashMap<>();
   private final Map<String, Integer> depths = new HashMap<>();
 
-  CallDepth(Path classes) throws IOException {
-    String owner = "";
-    String method = "";
-    for (String line : listing(classes).split("\n")) {
-      Matcher of = CLASS.matcher(line);
-      Matcher begins = METHOD.matcher(line);
-      Matcher call = CALL.matcher(line);
-      if (of.matches()) {
-        owner = of.group(1);
-      } else if (begins.matches()) {
-        String name = begins.group(1);
-        method = owner + "." + (name.equals(owner) ? "new" : name);
-        calls.computeIfAbsent(method, any -> new TreeSet<>());
-      } else if (call.matches()) {
-        String called = call.group(1) == null ? owner : call.group(1);
-        calls.get(method).add(called + "." + (call.group(2) == null ? "new" : call.group(2)));
-      }
+  CallDepth(Path source) throws IOException {
+    JavaCompiler compiler = ToolProvider.getSystemJavaCompiler();
+    try (StandardJavaFileManager files = compiler.getStandardFileManager(null, null, null)) {
+      JavacTask task = (JavacTask) compiler.getTask(null, files, null, List.of("-proc:none"), null, files.getJavaFileObjects(source));
+      Iterable<? extends Tree> units = task.parse();
+      task.analyze();
+      new Finder(Trees.instance(task)).scan(units, null);
     }
     calls.keySet().forEach(from -> reached.put(from, reach(from)));
   }
 
-  private static String listing(Path classes) throws IOException {
-    List<String> arguments;
-    try (Stream<Path> files = Files.list(classes)) {
-      arguments = files.map(Path::toString).filter(f -> f.matches(".*[/\\\\]TowField(\\$\\w+)?\\.class")).sorted().collect(Collectors.toList());
+  /** Walks through the source; the second argument is the method that it is in. */
+  private final class Finder extends TreePathScanner<Void, String> {
+    private final Trees trees;
+
+    private Finder(Trees trees) {
+      this.trees = trees;
     }
-    arguments.add(0, "-p");
-    arguments.add(0, "-c");
-    StringWriter text = new StringWriter();
-    PrintWriter out = new PrintWriter(text);
-    ToolProvider.findFirst("javap").orElseThrow().run(out, out, arguments.toArray(new String[0]));
-    out.flush();
-    return text.toString();
+
+    private String here() {
+      Element method = trees.getElement(getCurrentPath());
+      return method.getEnclosingElement() + "." + method.getSimpleName();
+    }
+
+    @Override
+    public Void visitMethod(MethodTree tree, String in) {
+      calls.computeIfAbsent(here(), any -> new TreeSet<>());
+      return super.visitMethod(tree, here());
+    }
+
+    @Override
+    public Void visitMethodInvocation(MethodInvocationTree tree, String in) {
+      return found(in, super.visitMethodInvocation(tree, in));
+    }
+
+    @Override
+    public Void visitNewClass(NewClassTree tree, String in) {
+      return found(in, super.visitNewClass(tree, in));
+    }
+
+    private Void found(String in, Void nothing) {
+      if (in != null) {
+        calls.get(in).add(here());
+      }
+      return nothing;
+    }
   }
 
   private Set<String> reach(String from) {
     Set<String> all = new HashSet<>();
-    List<String> open = new java.util.ArrayList<>(calls.get(from));
+    List<String> open = new ArrayList<>(calls.get(from));
     while (!open.isEmpty()) {
       String one = open.remove(open.size() - 1);
       if (calls.containsKey(one) && all.add(one)) {
@@ -81,7 +94,7 @@ final class CallDepth {
   }
 
   private boolean areOneRecursion(String a, String b) {
-    return reached.get(a).contains(b) && reached.get(b).contains(a);
+    return a.equals(b) || (reached.get(a).contains(b) && reached.get(b).contains(a));
   }
 
   /** How many methods stand open at once from this one on, where methods that call one another count as one. */
@@ -91,12 +104,10 @@ final class CallDepth {
       return known;
     }
     int below = 0;
-    Set<String> all = new HashSet<>(reached.get(method));
-    all.add(method);
-    for (String from : all) {
-      if (from.equals(method) || areOneRecursion(from, method)) {
+    for (String from : calls.keySet()) {
+      if (areOneRecursion(from, method)) {
         for (String to : calls.get(from)) {
-          if (calls.containsKey(to) && !to.equals(method) && !areOneRecursion(to, method)) {
+          if (calls.containsKey(to) && !areOneRecursion(to, method)) {
             below = Math.max(below, depth(to));
           }
         }

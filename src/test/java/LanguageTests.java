@@ -3,7 +3,6 @@ import java.lang.reflect.Constructor;
 import java.lang.reflect.Field;
 import java.lang.reflect.Method;
 import java.lang.reflect.Modifier;
-import java.net.URISyntaxException;
 import java.nio.file.Files;
 import java.nio.file.Path;
 import java.util.Set;
@@ -15,7 +14,7 @@ import java.util.regex.Pattern;
 public final class LanguageTests {
   private static final Due due = new Due();
 
-  public static void main(String[] args) throws IOException, URISyntaxException {
+  public static void main(String[] args) throws IOException {
     Path program = Path.of(System.getProperty("program", "src/main/java/TowField.java"));
     Path document = Path.of(System.getProperty("shared", "../shared")).resolve("DOC.md");
     String source = Files.readString(program);
@@ -27,7 +26,7 @@ public final class LanguageTests {
     due.holds("some twelve classes", TowField.class.getDeclaredClasses().length <= 11);
     words(withoutComments(source));
     shortMethods(source);
-    callDepth();
+    callDepth(program);
     noCallMakesAnObject();
     due.end();
   }
@@ -151,16 +150,16 @@ public final class LanguageTests {
     }
   }
 
-  private static void callDepth() throws IOException, URISyntaxException {
-    CallDepth calls = new CallDepth(Path.of(TowField.class.getProtectionDomain().getCodeSource().getLocation().toURI()));
+  private static void callDepth(Path program) throws IOException {
+    CallDepth calls = new CallDepth(program);
     for (Method method : TowField.class.getDeclaredMethods()) {
       String name = "TowField." + method.getName();
-      due.holds(name + " is among the class files' methods", calls.methods().contains(name));
+      due.holds(name + " is among the source's methods", calls.methods().contains(name));
       due.holds(name + " goes eight deep at most, not " + calls.depth(name), calls.depth(name) <= 8);
     }
     due.holds("calls of other classes' methods are seen", calls.depth("TowField.run") > 4);
     for (String name : calls.methods()) {
-      boolean isReader = name.startsWith("TowField$Tape.read");
+      boolean isReader = name.startsWith("TowField.Tape.read");
       due.holds(name + " calls itself only if it reads a text's parts", isReader || !calls.isRecursive(name));
     }
   }
